@@ -551,17 +551,13 @@ public final class StreamChain {
                 if (holds(proposals, block) && holds(known, parent)) {
                     known |= 1L << block;
                 }
-                if (!holds(notarized, block) && holds(known, block) && holds(notarized, parent)
-                        && hasVotesEnough(block)) {
+                boolean hasVotes = 3 * Integer.bitCount(voters[block]) >= 2 * size;
+                if (hasVotes && !holds(notarized, block) && holds(known, block) && holds(notarized, parent)) {
                     notarized |= 1L << block;
                     raiseTip(block);
                     makeFinalBelow(block, parent);
                 }
             }
-        }
-
-        private boolean hasVotesEnough(int block) {
-            return 3 * Integer.bitCount(voters[block]) >= 2 * size;
         }
 
         private void raiseTip(int block) {

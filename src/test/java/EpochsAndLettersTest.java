@@ -22,6 +22,7 @@ public final class EpochsAndLettersTest {
         proposalAfterItsEpoch();
         noVoteBelowReach();
         noVoteForWhatIsNotKnown();
+        noVoteOnWhatIsNotNotarized();
         voteOnceAParentIsNotarized();
         due.end();
     }
@@ -307,6 +308,20 @@ public final class EpochsAndLettersTest {
         x.flow(1);
         due.is("it has it", x.seen(1, 2), 1);
         due.is("no vote", x.voted(1, 1), NONE);
+    }
+
+    private static void noVoteOnWhatIsNotNotarized() {
+        StreamChain x = new StreamChain(4);
+        x.epoch();
+        x.settle();
+        x.fall(1);
+        x.lead(2, 1);
+        due.is("beside the tip", x.propose(1, 0, 1, 0, 15), 2);
+        due.is("on that", x.propose(1, 2, 2, 0, 15), 3);
+        x.epoch();
+        x.settle();
+        due.is("known, and its parent is as high as REACH", x.seen(0, 3) * 10 + x.reach(0, 0), 21);
+        due.is("no vote", x.count(5), 4);
     }
 
     private static void voteOnceAParentIsNotarized() {

@@ -14,6 +14,7 @@ public final class RandomRunsTest {
     private final int[] weights = new int[CALL_KINDS];
     private final StreamChain x;
     private final PlainChain y;
+    private int calls;
     private String call;
 
     private RandomRunsTest(Due due, int seed) {
@@ -37,29 +38,53 @@ public final class RandomRunsTest {
     }
 
     private void run(int seed) {
-        int told = tellAhead();
-        for (int calls = told; calls < CALLS && due.wrong() == 0; calls++) {
+        boolean forks = random.nextInt(4) == 0;
+        tellAhead(forks);
+        while (calls < CALLS - 2 * n && due.wrong() == 0) {
+            if (forks && random.nextInt(8) == 0) {
+                notarizeByLies();
+            }
             int[] answers = answers(kind());
-            due.is("run " + seed + ", call " + calls + ", " + call, answers[0], answers[1]);
+            is("run " + seed + ", call " + calls + ", " + call, answers[0], answers[1]);
         }
     }
 
+    private void is(String what, int got, int want) {
+        calls++;
+        due.is(what, got, want);
+    }
+
     /** Some nodes fall, and one leads many epochs, so that chains under lies get long. */
-    private int tellAhead() {
-        int told = 0;
-        int fallen = random.nextInt(n + 1);
+    private void tellAhead(boolean forks) {
+        int fallen = forks ? n - 2 : random.nextInt(n + 1);
         for (int node = 0; node < fallen; node++) {
-            due.is("fall", x.fall(node), y.fall(node));
-            told++;
+            is("fall", x.fall(node), y.fall(node));
         }
-        if (random.nextBoolean()) {
+        if (forks || random.nextBoolean()) {
             for (int epoch = 1; epoch <= 40; epoch++) {
-                int leader = random.nextInt(4) == 0 ? random.nextInt(n) : 0;
-                due.is("lead", x.lead(epoch, leader), y.lead(epoch, leader));
-                told++;
+                int leader = random.nextInt(forks ? 10 : 4) == 0 ? random.nextInt(n) : 0;
+                is("lead", x.lead(epoch, leader), y.lead(epoch, leader));
             }
         }
-        return told;
+    }
+
+    /** Node 0 makes a block of an epoch next to its parent's, all vote for it that can, and one sees it. */
+    private void notarizeByLies() {
+        int parent = random.nextInt(y.count(2));
+        int epoch = Math.min(40, y.about(parent, 1) + 1);
+        int node = random.nextInt(n);
+        int load = random.nextInt() & random.nextInt() & random.nextInt() & random.nextInt();
+        int made = y.propose(0, parent, epoch, load, 1 << node);
+        is("propose", x.propose(0, parent, epoch, load, 1 << node), made);
+        int block = made > 0 ? made : parent;
+        for (int voter = 0; voter < n; voter++) {
+            is("lie", x.lie(voter, block, 1 << node), y.lie(voter, block, 1 << node));
+        }
+        is("flow", x.flow(node), y.flow(node));
+        is("highest final", x.reach(node, 2), y.reach(node, 2));
+        int k = random.nextInt(8);
+        is("ledger", x.ledger(node, k), y.ledger(node, k));
+        is("agree", x.agree(), y.agree());
     }
 
     private int kind() {

@@ -255,7 +255,11 @@ public final class SightTest {
         vote(x, 2, 5);
         due.is("1 is as high", x.reach(5, 2), 1);
         due.is("both are final", x.seen(5, 1) + x.seen(5, 3), 8);
-        due.is("block 5", notarize(x, 4, 3, 0, 5), 5);
+        due.is("block 5", notarize(x, 0, 1, 0, 5), 5);
+        due.is("block 6", notarize(x, 5, 2, 0, 5), 6);
+        due.is("5 is as high, and final", x.seen(5, 5), 4);
+        due.is("1 stays", x.reach(5, 2), 1);
+        due.is("block 7", notarize(x, 4, 3, 0, 5), 7);
         due.is("4 is higher", x.reach(5, 2), 4);
         due.is("1 stays final", x.seen(5, 1), 4);
     }

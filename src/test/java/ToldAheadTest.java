@@ -9,6 +9,7 @@ public final class ToldAheadTest {
         leadRefuses();
         leadChangesTheMaker();
         leadOfAnEpochThatHasABlock();
+        leadOfAnEpochWithoutABlock();
         fallOnce();
         falseNodesDoNothingByThemselves();
         falseNodesKeepWhatCameToThemselves();
@@ -95,6 +96,16 @@ public final class ToldAheadTest {
         due.is("BAD ahead of that", x.lead(6, 4), StreamChain.BAD);
         due.is("lead of another", x.lead(10, 0), 2);
         due.is("still the leader", x.propose(2, 0, 6, 0, 0), 2);
+    }
+
+    private static void leadOfAnEpochWithoutABlock() {
+        StreamChain x = new StreamChain(4);
+        x.fall(1);
+        x.epoch();
+        due.is("no block of the present one", x.count(2), 1);
+        due.is("yet it has begun", x.lead(1, 0), StreamChain.STATE);
+        x.epoch();
+        due.is("and so when it is over", x.lead(1, 0), StreamChain.STATE);
     }
 
     private static void fallOnce() {
