@@ -75,7 +75,8 @@ public final class FaceTest {
             due.holds(field + " is public just if the document has it",
                 Modifier.isPublic(modifiers) == face.contains(field.getName()));
             due.holds(field + " is private otherwise", Modifier.isPublic(modifiers) || Modifier.isPrivate(modifiers));
-            due.holds(field + " is final if it is static", !Modifier.isStatic(modifiers) || Modifier.isFinal(modifiers));
+            due.holds(field + " is final if it is static",
+                !Modifier.isStatic(modifiers) || Modifier.isFinal(modifiers));
         }
     }
 
