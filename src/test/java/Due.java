@@ -1,6 +1,8 @@
 /** Holds answers against what is due, prints those that differ, and ends the program by that. */
 final class Due {
     private final String test;
+    private String sentence = "";
+    private int sentences;
     private int looked;
     private int wrong;
 
@@ -8,11 +10,17 @@ final class Due {
         this.test = test;
     }
 
+    /** The sentence of the document that the answers from here on belong to. */
+    void sentence(String where, String words) {
+        sentence = " [" + where + ": \"" + words + "\"]";
+        sentences++;
+    }
+
     void is(String what, long got, long want) {
         looked++;
         if (got != want) {
             wrong++;
-            System.out.println(test + ": " + what + " answered " + got + ", due is " + want);
+            System.out.println(test + sentence + ": " + what + " answered " + got + ", due is " + want);
         }
     }
 
@@ -20,7 +28,7 @@ final class Due {
         looked++;
         if (!holds) {
             wrong++;
-            System.out.println(test + ": it does not hold that " + what);
+            System.out.println(test + sentence + ": it does not hold that " + what);
         }
     }
 
@@ -29,7 +37,8 @@ final class Due {
     }
 
     void end() {
-        System.out.println(test + ": " + looked + " answers, " + wrong + " not as due");
+        String told = sentences == 0 ? "" : sentences + " sentences, ";
+        System.out.println(test + ": " + told + looked + " answers, " + wrong + " not as due");
         if (wrong != 0) {
             System.exit(1);
         }

@@ -63,7 +63,8 @@ public final class FaceTest {
         Constructor<?>[] constructors = StreamChain.class.getDeclaredConstructors();
         due.is("constructors", constructors.length, 1);
         due.holds("it is public", Modifier.isPublic(constructors[0].getModifiers()));
-        due.holds("it takes an int", Arrays.equals(constructors[0].getParameterTypes(), new Class<?>[] {int.class}));
+        due.holds("it takes an int",
+            Arrays.equals(constructors[0].getParameterTypes(), new Class<?>[] {int.class}));
         due.holds("the class is final", Modifier.isFinal(StreamChain.class.getModifiers()));
         due.holds("the class is public", Modifier.isPublic(StreamChain.class.getModifiers()));
     }
@@ -74,7 +75,8 @@ public final class FaceTest {
             int modifiers = field.getModifiers();
             due.holds(field + " is public just if the document has it",
                 Modifier.isPublic(modifiers) == face.contains(field.getName()));
-            due.holds(field + " is private otherwise", Modifier.isPublic(modifiers) || Modifier.isPrivate(modifiers));
+            due.holds(field + " is private otherwise",
+                Modifier.isPublic(modifiers) || Modifier.isPrivate(modifiers));
             due.holds(field + " is final if it is static",
                 !Modifier.isStatic(modifiers) || Modifier.isFinal(modifiers));
         }

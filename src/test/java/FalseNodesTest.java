@@ -16,16 +16,8 @@ public final class FalseNodesTest {
         due.end();
     }
 
-    private static StreamChain withFalse(int n, int... fallen) {
-        StreamChain x = new StreamChain(n);
-        for (int node : fallen) {
-            x.fall(node);
-        }
-        return x;
-    }
-
     private static void proposeMakes() {
-        StreamChain x = withFalse(4, 3);
+        StreamChain x = Scenes.withFalse(4, 3);
         due.is("propose", x.propose(3, 0, 7, Integer.MIN_VALUE | 5, 15), 1);
         due.is("parent", x.about(1, 0), 0);
         due.is("epoch", x.about(1, 1), 7);
@@ -46,7 +38,7 @@ public final class FalseNodesTest {
     }
 
     private static void proposeRefuses() {
-        StreamChain x = withFalse(4, 1);
+        StreamChain x = Scenes.withFalse(4, 1);
         int[] far = {Integer.MIN_VALUE, -1, Integer.MAX_VALUE};
         for (int number : far) {
             due.is("node " + number, x.propose(number, 0, 1, 0, 0), BAD);
@@ -85,7 +77,7 @@ public final class FalseNodesTest {
     }
 
     private static void lieSends() {
-        StreamChain x = withFalse(5, 0, 1);
+        StreamChain x = Scenes.withFalse(5, 0, 1);
         x.propose(0, 0, 5, 0, 0);
         due.is("votes ahead", x.votes(1, 1), 0);
         due.is("to none", x.lie(1, 1, 0), 0);
@@ -117,7 +109,7 @@ public final class FalseNodesTest {
     }
 
     private static void lieRefuses() {
-        StreamChain x = withFalse(4, 1);
+        StreamChain x = Scenes.withFalse(4, 1);
         x.propose(1, 0, 1, 0, 0);
         int[] far = {Integer.MIN_VALUE, -1, Integer.MAX_VALUE};
         for (int number : far) {
@@ -136,7 +128,7 @@ public final class FalseNodesTest {
     }
 
     private static void passSends() {
-        StreamChain x = withFalse(5, 1, 2);
+        StreamChain x = Scenes.withFalse(5, 1, 2);
         x.propose(1, 0, 1, 0, 4);
         due.is("its maker passes it on", x.pass(1, 1, 1), 1);
         due.is("to itself and to that one", x.pass(1, 1, 3), 0);
@@ -151,7 +143,7 @@ public final class FalseNodesTest {
     }
 
     private static void passRefuses() {
-        StreamChain x = withFalse(4, 1);
+        StreamChain x = Scenes.withFalse(4, 1);
         x.propose(1, 0, 1, 0, 1);
         int[] far = {Integer.MIN_VALUE, -1, Integer.MAX_VALUE};
         for (int number : far) {

@@ -25,33 +25,6 @@ public final class SightTest {
         due.end();
     }
 
-    /** Nodes 0 .. 3 of six are FALSE, and 0 leads all epochs: their four votes notarize a block. */
-    private static StreamChain underFalseOnes() {
-        StreamChain x = new StreamChain(6);
-        for (int node = 0; node < 4; node++) {
-            x.fall(node);
-        }
-        for (int epoch = 1; epoch <= 40; epoch++) {
-            x.lead(epoch, 0);
-        }
-        return x;
-    }
-
-    /** Makes a block, and has it and the votes of all FALSE nodes come to one node. */
-    private static int notarize(StreamChain x, int parent, int epoch, int load, int node) {
-        int block = x.propose(0, parent, epoch, load, 1 << node);
-        x.bring(block, node);
-        vote(x, block, node);
-        return block;
-    }
-
-    private static void vote(StreamChain x, int block, int node) {
-        for (int voter = 0; voter < 4; voter++) {
-            x.lie(voter, block, 1 << node);
-            x.bringVote(voter, block, node);
-        }
-    }
-
     private static void aboutBlocks() {
         StreamChain x = new StreamChain(5);
         x.wish(1, 4);
@@ -73,7 +46,7 @@ public final class SightTest {
     }
 
     private static void seenSteps() {
-        StreamChain x = underFalseOnes();
+        StreamChain x = Scenes.underFalseOnes();
         x.propose(0, 0, 1, 0, 0);
         x.propose(0, 1, 2, 0, 0);
         due.is("nothing", x.seen(5, 1), 0);
@@ -81,9 +54,9 @@ public final class SightTest {
         due.is("under way is nothing", x.seen(5, 1), 0);
         x.bring(1, 5);
         due.is("known", x.seen(5, 1), 2);
-        vote(x, 1, 5);
+        Scenes.vote(x, 1, 5);
         due.is("notarized", x.seen(5, 1), 3);
-        vote(x, 2, 5);
+        Scenes.vote(x, 2, 5);
         due.is("votes alone are nothing", x.seen(5, 2), 0);
         x.pass(0, 2, 32);
         x.bring(2, 5);
@@ -94,14 +67,14 @@ public final class SightTest {
     }
 
     private static void seenByNoParent() {
-        StreamChain x = underFalseOnes();
+        StreamChain x = Scenes.underFalseOnes();
         x.propose(0, 0, 1, 0, 0);
         x.propose(0, 1, 2, 0, 32);
         x.propose(0, 2, 3, 0, 32);
         x.flow(5);
-        vote(x, 1, 5);
-        vote(x, 2, 5);
-        vote(x, 3, 5);
+        Scenes.vote(x, 1, 5);
+        Scenes.vote(x, 2, 5);
+        Scenes.vote(x, 3, 5);
         due.is("it has 2", x.seen(5, 2), 1);
         due.is("it has 3", x.seen(5, 3), 1);
         due.is("REACH", x.reach(5, 0), 0);
@@ -179,62 +152,62 @@ public final class SightTest {
     }
 
     private static void tipOfTheGreatestEpoch() {
-        StreamChain x = underFalseOnes();
-        due.is("block 1 of epoch 5", notarize(x, 0, 5, 0, 5), 1);
-        due.is("block 2 of epoch 7", notarize(x, 0, 7, 0, 5), 2);
+        StreamChain x = Scenes.underFalseOnes();
+        due.is("block 1 of epoch 5", Scenes.notarize(x, 0, 5, 0, 5), 1);
+        due.is("block 2 of epoch 7", Scenes.notarize(x, 0, 7, 0, 5), 2);
         due.is("TIP", x.reach(5, 1), 2);
-        due.is("block 3 of epoch 6", notarize(x, 0, 6, 0, 5), 3);
+        due.is("block 3 of epoch 6", Scenes.notarize(x, 0, 6, 0, 5), 3);
         due.is("TIP stays", x.reach(5, 1), 2);
-        due.is("block 4 on 1, of epoch 2", notarize(x, 1, 2, 0, 5), 4);
+        due.is("block 4 on 1, of epoch 2", Scenes.notarize(x, 1, 2, 0, 5), 4);
         due.is("the higher one is TIP", x.reach(5, 1), 4);
         due.is("REACH", x.reach(5, 0), 2);
         due.is("REACH of another", x.reach(4, 0), 0);
     }
 
     private static void tipOfTheLeastNumber() {
-        StreamChain x = underFalseOnes();
+        StreamChain x = Scenes.underFalseOnes();
         x.propose(0, 0, 5, 0, 0);
-        due.is("block 2, of the same epoch", notarize(x, 0, 5, 0, 5), 2);
+        due.is("block 2, of the same epoch", Scenes.notarize(x, 0, 5, 0, 5), 2);
         due.is("TIP", x.reach(5, 1), 2);
         x.pass(0, 1, 32);
         x.bring(1, 5);
-        vote(x, 1, 5);
+        Scenes.vote(x, 1, 5);
         due.is("the lesser number is TIP, though it is later", x.reach(5, 1), 1);
-        due.is("block 3, of the same epoch", notarize(x, 0, 5, 0, 5), 3);
+        due.is("block 3, of the same epoch", Scenes.notarize(x, 0, 5, 0, 5), 3);
         due.is("TIP stays", x.reach(5, 1), 1);
     }
 
     private static void finalNeedsThreeInARow() {
-        StreamChain x = underFalseOnes();
-        notarize(x, 0, 3, 0, 5);
-        notarize(x, 1, 4, 0, 5);
+        StreamChain x = Scenes.underFalseOnes();
+        Scenes.notarize(x, 0, 3, 0, 5);
+        Scenes.notarize(x, 1, 4, 0, 5);
         due.is("two in a row", x.reach(5, 2), 0);
-        notarize(x, 2, 5, 0, 5);
+        Scenes.notarize(x, 2, 5, 0, 5);
         due.is("three in a row", x.reach(5, 2), 2);
         due.is("first of three", x.seen(5, 1), 4);
         due.is("second of three", x.seen(5, 2), 4);
         due.is("third of three", x.seen(5, 3), 3);
-        notarize(x, 1, 5, 0, 5);
+        Scenes.notarize(x, 1, 5, 0, 5);
         due.is("no row over 1 and 4", x.reach(5, 2), 2);
-        notarize(x, 3, 6, 0, 5);
+        Scenes.notarize(x, 3, 6, 0, 5);
         due.is("four in a row", x.reach(5, 2), 3);
     }
 
     private static void finalFromTheFirstOne() {
-        StreamChain x = underFalseOnes();
-        notarize(x, 0, 1, 0, 5);
+        StreamChain x = Scenes.underFalseOnes();
+        Scenes.notarize(x, 0, 1, 0, 5);
         due.is("two in a row", x.reach(5, 2), 0);
-        notarize(x, 1, 2, 0, 5);
+        Scenes.notarize(x, 1, 2, 0, 5);
         due.is("three in a row", x.reach(5, 2), 1);
     }
 
     private static void finalNeedsEpochsInARow() {
         int[][] rows = {{1, 3, 4}, {2, 3, 3}, {2, 2, 3}, {3, 2, 1}, {2, 3, 5}, {2, 4, 6}, {4, 3, 4}};
         for (int[] row : rows) {
-            StreamChain x = underFalseOnes();
-            notarize(x, 0, row[0], 0, 5);
-            notarize(x, 1, row[1], 0, 5);
-            notarize(x, 2, row[2], 0, 5);
+            StreamChain x = Scenes.underFalseOnes();
+            Scenes.notarize(x, 0, row[0], 0, 5);
+            Scenes.notarize(x, 1, row[1], 0, 5);
+            Scenes.notarize(x, 2, row[2], 0, 5);
             due.is("REACH of a row", x.reach(5, 0), 3);
             due.is("final of a row", x.reach(5, 2), 0);
             due.is("seen of a row", x.seen(5, 1), 3);
@@ -242,35 +215,35 @@ public final class SightTest {
     }
 
     private static void highestFinalOfTheLeastNumber() {
-        StreamChain x = underFalseOnes();
+        StreamChain x = Scenes.underFalseOnes();
         x.propose(0, 0, 1, 0, 0);
         x.propose(0, 1, 2, 0, 0);
-        due.is("block 3", notarize(x, 0, 1, 0, 5), 3);
-        due.is("block 4", notarize(x, 3, 2, 0, 5), 4);
+        due.is("block 3", Scenes.notarize(x, 0, 1, 0, 5), 3);
+        due.is("block 4", Scenes.notarize(x, 3, 2, 0, 5), 4);
         due.is("3 is final", x.reach(5, 2), 3);
         x.pass(0, 1, 32);
         x.pass(0, 2, 32);
         x.flow(5);
-        vote(x, 1, 5);
-        vote(x, 2, 5);
+        Scenes.vote(x, 1, 5);
+        Scenes.vote(x, 2, 5);
         due.is("1 is as high", x.reach(5, 2), 1);
         due.is("both are final", x.seen(5, 1) + x.seen(5, 3), 8);
-        due.is("block 5", notarize(x, 0, 1, 0, 5), 5);
-        due.is("block 6", notarize(x, 5, 2, 0, 5), 6);
+        due.is("block 5", Scenes.notarize(x, 0, 1, 0, 5), 5);
+        due.is("block 6", Scenes.notarize(x, 5, 2, 0, 5), 6);
         due.is("5 is as high, and final", x.seen(5, 5), 4);
         due.is("1 stays", x.reach(5, 2), 1);
-        due.is("block 7", notarize(x, 4, 3, 0, 5), 7);
+        due.is("block 7", Scenes.notarize(x, 4, 3, 0, 5), 7);
         due.is("4 is higher", x.reach(5, 2), 4);
         due.is("1 stays final", x.seen(5, 1), 4);
     }
 
     private static void ledgerInItsOrder() {
-        StreamChain x = underFalseOnes();
-        notarize(x, 0, 1, 1 << 9 | 1 << 31, 5);
+        StreamChain x = Scenes.underFalseOnes();
+        Scenes.notarize(x, 0, 1, 1 << 9 | 1 << 31, 5);
         due.is("nothing is final", x.ledger(5, 0), NONE);
-        notarize(x, 0, 4, 1 << 20, 5);
-        notarize(x, 1, 2, 1 << 8 | 1, 5);
-        notarize(x, 3, 3, 1 << 7, 5);
+        Scenes.notarize(x, 0, 4, 1 << 20, 5);
+        Scenes.notarize(x, 1, 2, 1 << 8 | 1, 5);
+        Scenes.notarize(x, 3, 3, 1 << 7, 5);
         int[] want = {9, 31, 0, 8, NONE, NONE};
         for (int k = 0; k < want.length; k++) {
             due.is("ledger(5, " + k + ")", x.ledger(5, k), want[k]);
@@ -282,12 +255,12 @@ public final class SightTest {
     }
 
     private static void ledgerSaysAWishOnce() {
-        StreamChain x = underFalseOnes();
-        notarize(x, 0, 1, 6, 5);
-        notarize(x, 1, 2, 6, 5);
-        notarize(x, 2, 3, 7, 5);
-        notarize(x, 3, 4, -1, 5);
-        notarize(x, 4, 5, 0, 5);
+        StreamChain x = Scenes.underFalseOnes();
+        Scenes.notarize(x, 0, 1, 6, 5);
+        Scenes.notarize(x, 1, 2, 6, 5);
+        Scenes.notarize(x, 2, 3, 7, 5);
+        Scenes.notarize(x, 3, 4, -1, 5);
+        Scenes.notarize(x, 4, 5, 0, 5);
         int[] ahead = {1, 2, 0};
         for (int k = 0; k < 32; k++) {
             due.is("ledger(5, " + k + ")", x.ledger(5, k), k < 3 ? ahead[k] : k);
@@ -296,14 +269,14 @@ public final class SightTest {
     }
 
     private static void agreeAndNot() {
-        StreamChain x = underFalseOnes();
-        notarize(x, 0, 1, 0, 5);
-        notarize(x, 1, 2, 0, 5);
-        notarize(x, 2, 3, 0, 5);
+        StreamChain x = Scenes.underFalseOnes();
+        Scenes.notarize(x, 0, 1, 0, 5);
+        Scenes.notarize(x, 1, 2, 0, 5);
+        Scenes.notarize(x, 2, 3, 0, 5);
         due.is("one is ahead", x.agree(), 1);
-        notarize(x, 0, 1, 0, 4);
+        Scenes.notarize(x, 0, 1, 0, 4);
         due.is("a fork that is not final", x.agree(), 1);
-        notarize(x, 4, 2, 0, 4);
+        Scenes.notarize(x, 4, 2, 0, 4);
         due.is("2 to the one, 4 to the other", x.reach(5, 2) * 10 + x.reach(4, 2), 24);
         due.is("they do not agree", x.agree(), 0);
         x.fall(4);
